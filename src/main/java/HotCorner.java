@@ -724,7 +724,7 @@ public final class HotCorner {
 
     private static int spotUnder(int place, int quarters) {
         int x = place & 3;
-        int y = place >> 2 & 3;
+        int y = (place >> 2) & 3;
         for (int q = 0; q < quarters; q++) {
             int was = x;
             x = 3 - y;
@@ -965,7 +965,7 @@ public final class HotCorner {
                 return;
             }
             if (next < oven.openings && oven.minute[next] == minute) {
-                lies = lies + oven.quarters[next] & 3;
+                lies = (lies + oven.quarters[next]) & 3;
                 last = minute;
                 next++;
             }
@@ -1356,7 +1356,7 @@ public final class HotCorner {
                 advance();
                 return true;
             }
-            if (token != '-' && token != '(' || open >= MOST_OPEN) {
+            if ((token != '-' && token != '(') || open >= MOST_OPEN) {
                 return false;
             }
             return token == '-' ? readNegative() : readInner();
