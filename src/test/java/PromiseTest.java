@@ -1063,6 +1063,11 @@ public final class PromiseTest {
         due("it lies as it lay", x.told(0, 3), 5);
         heat(x, 15, 1);
         due("the last place", x.lay(0, 0), 15);
+        HotCorner y = by("browns heat;cools 0;minds 1;");
+        y.cake(0, 0, 0);
+        y.cake(0, 0, 1);
+        heat(y, 0, 1);
+        due("the first place is another's", y.lay(1, 0), 1);
     }
 
     private static void swapping() {
