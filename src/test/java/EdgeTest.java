@@ -673,6 +673,12 @@ public final class EdgeTest {
             says("3=2", 0);
             says("7", 7);
             says("(5 or 0)+(3=3)", 2);
+            says("5+(0 or 0)", 5);
+            says("5+(0 and 7)", 5);
+            says("5+(not 7)", 5);
+            says("5+(3<3)", 5);
+            says("5+(3=2)", 5);
+            says("5+(7 or 0)+(7 and 7)+(not 0)+(2<3)+(3=3)", 10);
         });
     }
 
@@ -682,6 +688,11 @@ public final class EdgeTest {
             fault("  heat", 2);
             fault("browns  heat heat", 13);
             fault("browns 1 )", 9);
+            fault("browns ();", 8);
+            fault("browns (1;", 9);
+            fault("browns (1 1);", 10);
+            fault("browns (;);", 8);
+            fault("browns (1;);", 9);
             fault("browns 1;cools 1;minds 1; browns", 26);
             fault("browns 1;cools 1;minds 1;;", 25);
             fault("browns ? heat heat 12345", 7);
@@ -707,6 +718,18 @@ public final class EdgeTest {
             fault("browns heaty;", 7);
             fault("browns hea;", 7);
             fault("browns 1 xor 1;", 9);
+            fault("browns xeat;", 7);
+            fault("browns hext;", 7);
+            fault("browns heax;", 7);
+            fault("xrowns 1;", 0);
+            fault("browns not abc 1;", 11);
+            fault("browns -abc 1;", 8);
+            fault("browns (abc 1;", 8);
+            fault("browns not ? 1;", 11);
+            fault("browns -? 1;", 8);
+            fault("browns (? 1;", 8);
+            fault("browns not 12345 1;", 11);
+            fault("browns - 12345 1;", 9);
             fault("cakes 1;", 0);
             fault("browns 1;cools oven;", 15);
             fault("browns 1+12345;", 9);
@@ -806,11 +829,15 @@ public final class EdgeTest {
             y.open(0, 0);
             due("cools, too", y.at(0, 1), 10);
             due("cools, too", y.at(0, 2), 10);
-            HotCorner z = by("browns 9;cools 0;minds heat+minute+since;");
-            z.cake(0, 999, 0);
-            z.open(1, 0);
-            due("0 in BADNESS", z.off(0, 1), 0);
-            due("those of the call", z.asks(2, 2030, 0, 40), 90);
+            for (String name : new String[] {"heat", "minute", "since"}) {
+                HotCorner z = by("browns 0;cools 0;minds 3+" + name + ";");
+                z.cake(0, 1, 0);
+                z.open(1, 0);
+                due(name + " 0 in BADNESS", z.off(0, 1), 3);
+                due(name + " 0 in BADNESS of all", z.end(0), 3);
+                due(name + " 0 in BADNESS by a minute", z.out(0, 1), 3);
+                due(name + " of the call", z.asks(2, 3030, 0, 30), 33);
+            }
             HotCorner w = by("browns 5;cools 0;minds brown=95;");
             w.cake(0, 0, 0);
             due("minds takes it as at the end", w.off(0, 1), 0);
@@ -878,6 +905,11 @@ public final class EdgeTest {
             due("0 at least", x.at(0, 4), 18);
             x.set(0, 0, 0);
             due("0 at least", x.at(0, 20), 0);
+            x.force(read(x, "browns heat+1;cools 99;minds 1;"));
+            x.set(0, 0, 98);
+            due("98 less 99 is 0, and 1 more", x.at(0, 4) - x.at(0, 3), 1);
+            x.set(0, 0, 99);
+            due("99 less 99 is 0, and 1 more", x.at(0, 4) - x.at(0, 3), 1);
             HotCorner y = by("browns heat;cools since+1;minds 1;");
             y.cake(0, 0, 0);
             y.open(0, 0);
@@ -989,6 +1021,9 @@ public final class EdgeTest {
             x.move(1, 4);
             x.move(2, 6);
             x.shut();
+            for (int k = 0; k < 6; k++) {
+                x.open(20 + k, 2);
+            }
             fullOfCakes(x);
             x.set(1, 0, 40);
             x.set(2, 0, 0);
@@ -1236,6 +1271,16 @@ public final class EdgeTest {
             due("the last place", x.text(), -260);
             feed(x, blanks(160));
             due("there is room anew", x.count(6), 160);
+            HotCorner w = new HotCorner();
+            for (int i = 0; i < 7; i++) {
+                due("faults again and again", read(w, "browns 1" + "+1".repeat(74) + "?"), -256);
+            }
+            due("a good one behind them", read(w, "browns 1+2*3;cools 7-1-1;minds not 0;"), 1);
+            w.cake(0, 0, 0);
+            w.force(1);
+            due("its browns", w.asks(0, 0, 0, 0), 7);
+            due("its cools", w.asks(1, 0, 0, 0), 5);
+            due("its minds", w.asks(2, 0, 0, 0), 1);
             HotCorner y = rich();
             HotCorner z = rich();
             feed(y, "?");
@@ -1291,6 +1336,12 @@ public final class EdgeTest {
             z.cake(9, 0, 1);
             due("cake 0", z.asks(1, 0, 0, 99), 3);
             due("cake 1", z.asks(1, 0, 0, 100), 9);
+            HotCorner w = by("browns since;cools since;minds since;");
+            fullOfCakes(w);
+            for (int c = 0; c < 8; c++) {
+                due("since 0 of " + c, w.asks(0, 0, 0, 100 * c), 0);
+                due("since 99 of " + c, w.asks(2, 0, 0, 100 * c + 99), 99);
+            }
         });
         edge(9, "BAD.", () -> {
             for (int v : new int[] {-1, 3, LOWEST, HIGHEST}) {
@@ -1442,6 +1493,9 @@ public final class EdgeTest {
             refused("far below", x -> x.open(0, 0), -3);
             refused(EdgeTest::fullOfOpenings, "ahead of FULL", x -> x.open(10, 0), -3);
             due("1 above", rich().open(6, 0), 3);
+            refused(x -> { x.shut(); x.open(5, 0); }, "the same as the only one", x -> x.open(5, 0), -3);
+            refused(x -> { x.shut(); x.open(5, 0); }, "1 below the only one", x -> x.open(4, 0), -3);
+            refused(x -> { x.shut(); x.open(39, 0); }, "the last minute again", x -> x.open(39, 0), -3);
         });
         edge(13, "FULL.", () -> {
             refused(EdgeTest::fullOfOpenings, "a seventh", x -> x.open(11, 0), -4);
@@ -1863,6 +1917,14 @@ public final class EdgeTest {
             due("1", x.fan(), 16 - 2);
             allHot(x, 99);
             due("hottest", x.fan(), 0);
+            x.move(0, 0);
+            x.move(1, 15);
+            x.set(0, 0, 0);
+            x.set(0, 15, 0);
+            due("all spots, the first and the last too", x.fan(), 0 - 2 * 86);
+            x.move(0, 5);
+            x.move(1, 6);
+            allHot(x, 99);
             x.set(0, 15, 98);
             due("98, cut", x.fan(), 2 * 99 - 2 * 98);
             x.open(0, 0);
@@ -1919,6 +1981,9 @@ public final class EdgeTest {
             due("another's is not free", x.lay(0, 0), 7);
             x.set(0, 8, 11);
             due("of like ones the first", x.lay(0, 0), 7);
+            x.set(0, 0, 10);
+            due("another's is not free, the first one's neither", x.lay(0, 0), 7);
+            due("another's is not free, the first one's neither", x.lay(0, 1), 3);
             HotCorner y = by("browns heat;cools 0;minds 1;");
             y.set(0, 3, 20);
             y.set(2, 0, 1);
@@ -1973,6 +2038,12 @@ public final class EdgeTest {
             x.set(0, 8, 10);
             x.set(0, 7, 20);
             due("the last one", x.swap(0), 27);
+            x.set(0, 0, 20);
+            due("the first one is too hot by 20", x.swap(0), 2);
+            x.set(0, 0, 15);
+            x.set(0, 9, 0);
+            x.move(7, 9);
+            due("the first and the last", x.swap(0), 7);
             HotCorner y = by("browns heat;cools 0;minds 1;");
             y.set(1, 0, 1);
             y.set(0, 7, 11);
