@@ -2301,9 +2301,9 @@ public final class EdgeTest {
 
     private static void toldTurnsAndLaws() {
         edge(35, "MINUTES (bits, 0 .. TIME less 1) at which, were THE PLAN one OPENING alone, of 2 QUARTERS, then, that would be -1.", () -> {
-            HotCorner x = oneMinute(10, 2, 0);
-            x.set(0, 15, 11);
             for (int time = 1; time <= 40; time++) {
+                HotCorner x = oneMinute(10, 2, 0);
+                x.set(0, 15, 11);
                 x.set(1, 0, time);
                 for (int minute = 0; minute < time; minute += time - 1 - minute > 3 ? 3 : 1) {
                     x.cell(0, 0, 10 * minute + 11 * (time - minute));
@@ -2314,8 +2314,8 @@ public final class EdgeTest {
                 x.cell(0, 0, 11 * time + 1);
                 due("never, of " + time, x.turned(0), 0);
             }
-            x.set(0, 15, 10);
-            x.cell(0, 0, 400);
+            HotCorner x = oneMinute(10, 2, 400);
+            x.set(1, 0, 40);
             x.open(3, 1);
             due("any of 40", x.turned(0), 1099511627775L);
             x.set(1, 0, 1);
